@@ -397,11 +397,11 @@ public final class StarTales {
         if (!sea.hasShip(a) || !sea.hasShip(b) || !isWithin(what, 0, 1)) {
             return NONE;
         }
-        int place = sea.meetingPlace(sea.shipPlace[a], sea.shipPlace[b]);
+        int place = pilot.meetingPlace(sea, sea.shipPlace[a], sea.shipPlace[b]);
         if (place == NONE) {
             return -2;
         }
-        return what == 1 ? place : sea.hoursTo(place);
+        return what == 1 ? place : pilot.hoursTo(place);
     }
 
     public int fastest(int s, int x, int y, int n, int what) {
@@ -422,7 +422,7 @@ public final class StarTales {
         }
         ahead.copyFrom(sky);
         view.open(ahead, ruling);
-        if (!pilot.findByTwo(view, sea, sea.shipPlace[s], placeOf(x, y), n)) {
+        if (!pilot.findByTwo(view, sea, sky, sea.shipPlace[s], placeOf(x, y), n)) {
             return -2;
         }
         switch (what) {
@@ -803,9 +803,6 @@ public final class StarTales {
         final int[] landRow = new int[ROWS];
         int shipsTold = 0;
         final int[] shipPlace = new int[SHIPS];
-        private final int[] hoursFromOne = new int[PLACES];
-        private final int[] hoursFromOther = new int[PLACES];
-        private final int[] queue = new int[PLACES];
 
         boolean isLand(int place) {
             return (landRow[rowOf(place)] >> columnOf(place) & 1) != 0;
@@ -861,43 +858,6 @@ public final class StarTales {
                     break;
             }
             return !isPlace(x, y) || isLand(placeOf(x, y)) ? NONE : placeOf(x, y);
-        }
-
-        /** Where two that set out from here and there meet after the fewest HOURS; NONE: nowhere. */
-        int meetingPlace(int here, int there) {
-            spread(here, hoursFromOne);
-            spread(there, hoursFromOther);
-            int best = NONE;
-            for (int place = 0; place < PLACES; place++) {
-                boolean canMeet = hoursFromOne[place] != NONE && hoursFromOther[place] != NONE;
-                if (canMeet && (best == NONE || hoursTo(place) < hoursTo(best))) {
-                    best = place;
-                }
-            }
-            return best;
-        }
-
-        /** Of the meeting that was asked for last: HOURS till both are at a PLACE (who is there first waits). */
-        int hoursTo(int place) {
-            return Math.max(hoursFromOne[place], hoursFromOther[place]);
-        }
-
-        private void spread(int from, int[] hoursFrom) {
-            Arrays.fill(hoursFrom, NONE);
-            hoursFrom[from] = 0;
-            queue[0] = from;
-            int queued = 1;
-            for (int next = 0; next < queued && next < PLACES; next++) {
-                int place = queue[next];
-                for (int how = 1; how < WAYS; how++) {
-                    int to = goFrom(place, how);
-                    if (to != NONE && hoursFrom[to] == NONE && queued < PLACES) {
-                        hoursFrom[to] = hoursFrom[place] + 1;
-                        queue[queued] = to;
-                        queued++;
-                    }
-                }
-            }
         }
 
         void copyFrom(Sea from) {
@@ -1057,59 +1017,51 @@ public final class StarTales {
 
         /** Leaves what the steps come to in answer; false: they are REFUSED. */
         private boolean run(int from, int end) {
-            int top = 0;
+            int top = -1;
             for (int step = from; step < end; step++) {
                 int kind = kinds[step];
                 if (kind <= LETTER) {
+                    top++;
                     if (top >= STACK) {
                         return false;
                     }
                     stack[top] = kind == NUMBER ? values[step] : letters[values[step]];
-                    top++;
-                } else if (kind < PLUS) {
-                    if (top < 1) {
-                        return false;
-                    }
-                    boolean isSo = stack[top - 1] != 0;
-                    if (kind == NOT) {
-                        stack[top - 1] = isSo ? 0 : 1;
-                    } else if (isSo == (kind == JUMP_IF_SO)) {
-                        // Jumps lead onward alone: the step ahead of the landing is never an earlier one.
-                        step = Math.max(step, values[step] - 1);
-                    } else {
-                        top--;
-                    }
-                } else {
-                    top--;
-                    if (top < 1 || (stack[top] == 0 && (kind == DIVIDED || kind == REST))) {
-                        return false;
-                    }
-                    stack[top - 1] = reckon(kind, stack[top - 1], stack[top]);
+                    continue;
+                }
+                if (top < (kind < PLUS ? 0 : 1)) {
+                    return false;
+                }
+                int b = stack[top];
+                if (kind == NOT) {
+                    stack[top] = b == 0 ? 1 : 0;
+                    continue;
+                }
+                if (kind < PLUS && (b != 0) == (kind == JUMP_IF_SO)) {
+                    // Jumps lead onward alone: the step ahead of the landing is never an earlier one.
+                    step = Math.max(step, values[step] - 1);
+                    continue;
+                }
+                top--;
+                if (kind < PLUS) {
+                    continue;
+                }
+                if (b == 0 && (kind == DIVIDED || kind == REST)) {
+                    return false;
+                }
+                int a = stack[top];
+                switch (kind) {
+                    case PLUS: stack[top] = a + b; break;
+                    case MINUS: stack[top] = a - b; break;
+                    case TIMES: stack[top] = a * b; break;
+                    case DIVIDED: stack[top] = a / b; break;
+                    case REST: stack[top] = a % b; break;
+                    case BELOW: stack[top] = a < b ? 1 : 0; break;
+                    case ABOVE: stack[top] = a > b ? 1 : 0; break;
+                    default: stack[top] = a == b ? 1 : 0; break;
                 }
             }
-            answer = top < 1 ? 0 : stack[top - 1];
+            answer = top < 0 ? 0 : stack[top];
             return true;
-        }
-
-        private static int reckon(int kind, int a, int b) {
-            switch (kind) {
-                case PLUS:
-                    return a + b;
-                case MINUS:
-                    return a - b;
-                case TIMES:
-                    return a * b;
-                case DIVIDED:
-                    return b == 0 ? 0 : a / b;
-                case REST:
-                    return b == 0 ? 0 : a % b;
-                case BELOW:
-                    return a < b ? 1 : 0;
-                case ABOVE:
-                    return a > b ? 1 : 0;
-                default:
-                    return a == b ? 1 : 0;
-            }
         }
     }
 
@@ -1588,6 +1540,8 @@ public final class StarTales {
 
         /** The STARS (bits) that each name may still be, a row of names for each name that is settled. */
         private final int[] may = new int[(Tale.NAMES + 1) * Tale.NAMES];
+        /** The STARS (bits) that have LINES with the same others as a STAR has: any of them does as well. */
+        private final int[] twins = new int[STARS];
         /** The STARS of the way that was found last (of one way alone, or of the first). */
         final int[] starOf = new int[Tale.NAMES];
         private Tale tale;
@@ -1635,6 +1589,17 @@ public final class StarTales {
             for (int name = 0; name < Tale.NAMES; name++) {
                 may[name] = withLegs(shown, Integer.bitCount(tale.near[name]));
             }
+            for (int i = 0; i < STARS; i++) {
+                twins[i] = 1 << i;
+                for (int other = 0; other < i && (shown >> i & 1) != 0; other++) {
+                    int pair = 1 << i | 1 << other;
+                    boolean isTwin = ((joined[i] ^ joined[other]) & shown & ~pair) == 0;
+                    if (isTwin && (shown >> other & 1) != 0) {
+                        twins[i] |= 1 << other;
+                        twins[other] |= 1 << i;
+                    }
+                }
+            }
         }
 
         private int withLegs(int shown, int legs) {
@@ -1647,7 +1612,11 @@ public final class StarTales {
             return bits;
         }
 
-        /** Settles the names that are left (bits), ahead the one that may be the fewest STARS. */
+        /**
+         * Settles the names that are left (bits), ahead the one that may be the fewest STARS. Of twins that it
+         * may be one is tried for all: the names that are left can't tell them apart (those that findFirst
+         * settled can, but they may be one STAR alone, and so are never left here).
+         */
         private int search(int settled, int left, int most) {
             if (left == 0 || settled >= Tale.NAMES) {
                 return left == 0 ? 1 : 0;
@@ -1655,29 +1624,30 @@ public final class StarTales {
             int name = tightest(settled, left);
             int options = may[settled * Tale.NAMES + name];
             int others = left & ~(1 << name);
-            if (others == 0 && most > 1) {
-                return Math.min(most, Integer.bitCount(options));
-            }
             int ways = 0;
             for (int i = 0; i < STARS && ways < most; i++) {
                 if ((options >> i & 1) != 0) {
+                    int like = Integer.bitCount(options & twins[i]);
+                    options &= ~twins[i];
                     starOf[name] = i;
                     if (narrow(settled, others, name, i)) {
-                        ways += search(settled + 1, others, most - ways);
+                        ways += like * search(settled + 1, others, most - ways);
                     }
                 }
             }
-            return ways;
+            return Math.min(ways, most);
         }
 
         private int tightest(int settled, int left) {
             int best = 0;
-            int fewestOptions = STARS + 1;
+            int least = Integer.MAX_VALUE;
             for (int name = 0; name < Tale.NAMES; name++) {
                 if ((left >> name & 1) != 0) {
+                    // Of like ones the one with most LINES: it tells most about the others.
                     int options = Integer.bitCount(may[settled * Tale.NAMES + name]);
-                    if (options < fewestOptions) {
-                        fewestOptions = options;
+                    int rank = Tale.NAMES * options - Integer.bitCount(tale.near[name]);
+                    if (rank < least) {
+                        least = rank;
                         best = name;
                     }
                 }
@@ -1755,10 +1725,12 @@ public final class StarTales {
         }
     }
 
-    /** Steers ships by stars. */
+    /** Steers ships by stars, and brings them together. */
     private static final class Pilot {
         static final int MOST_BY_TWO = 12;
         private static final int MOST_LEGS = (MOST_BY_TWO - 1) * STARS;
+        /** So many ways BY TWO of as many HOURS can be: by first STAR, K and second STAR. */
+        private static final int RANKS = STARS * MOST_BY_TWO * STARS;
 
         int hoursTaken = 0;
         int firstStar = NONE;
@@ -1767,14 +1739,19 @@ public final class StarTales {
         int secondStar = NONE;
         /** Where each STAR has brought the SHIP. */
         private final int[] brought = new int[STARS];
-        /** The first legs: by which STAR and for how long; and where each second STAR brought it from there. */
+        /** The first legs: by which STAR, for how long, where to; and where a second STAR brought it from there. */
         private final int[] legStar = new int[MOST_LEGS];
         private final int[] legHours = new int[MOST_LEGS];
-        private final short[] legPlace = new short[MOST_LEGS * STARS];
+        private final int[] legEnd = new int[MOST_LEGS];
+        private final int[] legNow = new int[MOST_LEGS];
         private int legs = 0;
+        private int best = NONE;
         /** Steps by one STAR in one HOUR that were asked for already: a stamp, and the PLACE then. */
         private final int[] asked = new int[PLACES];
         private int stamp = 0;
+        private final int[] hoursFromOne = new int[PLACES];
+        private final int[] hoursFromOther = new int[PLACES];
+        private final int[] queue = new int[PLACES];
 
         /** The PLACE where a SHIP is after an HOUR in which it is steered by a STAR. */
         int step(View view, Sea sea, int place, int i) {
@@ -1823,27 +1800,31 @@ public final class StarTales {
             return false;
         }
 
-        /** Turns the sky of the view onward: the caller hands it one that may be spoilt. */
-        boolean findByTwo(View view, Sea sea, int from, int to, int most) {
+        /** Turns the sky of the view onward, and makes it like the one that is now again for each second STAR. */
+        boolean findByTwo(View view, Sea sea, Sky now, int from, int to, int most) {
             legs = 0;
             Arrays.fill(brought, from);
-            for (int t = 1; t <= most; t++) {
-                for (int i = 0; i < STARS; i++) {
-                    if (view.sky.hasStar(i)) {
-                        stepSecondLegs(view, sea, i);
-                    }
-                }
-                if (arrive(view.sky, to)) {
-                    hoursTaken = t;
-                    return true;
-                }
+            for (int t = 1; t < most; t++) {
                 stepFirstLegs(view, sea);
-                if (t < most) {
-                    beginSecondLegs(view.sky, t);
-                }
+                endFirstLegs(now, t);
                 turnOnward(view);
             }
-            return false;
+            best = NONE;
+            for (int i = 0; i < STARS; i++) {
+                if (now.hasStar(i)) {
+                    view.sky.copyFrom(now);
+                    view.open(view.sky, view.law);
+                    followSecond(view, sea, i, to, most);
+                }
+            }
+            if (best == NONE) {
+                return false;
+            }
+            hoursTaken = best / RANKS;
+            firstStar = best / (MOST_BY_TWO * STARS) % STARS;
+            turn = best / STARS % MOST_BY_TWO;
+            secondStar = best % STARS;
+            return true;
         }
 
         private void turnOnward(View view) {
@@ -1859,26 +1840,13 @@ public final class StarTales {
             }
         }
 
-        private void stepSecondLegs(View view, Sea sea, int i) {
-            stamp++;
-            for (int leg = 0; leg < legs; leg++) {
-                int place = legPlace[leg * STARS + i];
-                if (asked[place] / PLACES != stamp) {
-                    asked[place] = stamp * PLACES + step(view, sea, place, i);
-                }
-                legPlace[leg * STARS + i] = (short) (asked[place] % PLACES);
-            }
-        }
-
         /** A first STAR that brought the SHIP where a lower one did is never the answer. */
-        private void beginSecondLegs(Sky sky, int t) {
+        private void endFirstLegs(Sky sky, int t) {
             for (int i = 0; i < STARS; i++) {
                 if (sky.hasStar(i) && !isBroughtByLower(sky, i) && legs < MOST_LEGS) {
                     legStar[legs] = i;
                     legHours[legs] = t;
-                    for (int second = 0; second < STARS; second++) {
-                        legPlace[legs * STARS + second] = (short) brought[i];
-                    }
+                    legEnd[legs] = brought[i];
                     legs++;
                 }
             }
@@ -1893,23 +1861,60 @@ public final class StarTales {
             return false;
         }
 
-        private boolean arrive(Sky sky, int to) {
-            int best = NONE;
-            for (int leg = 0; leg < legs; leg++) {
-                for (int second = 0; second < STARS; second++) {
-                    if (sky.hasStar(second) && legPlace[leg * STARS + second] == to) {
-                        int rank = (legStar[leg] * MOST_BY_TWO + legHours[leg]) * STARS + second;
+        private void followSecond(View view, Sea sea, int i, int to, int most) {
+            for (int t = 1; t <= most && (best == NONE || t <= best / RANKS); t++) {
+                stamp++;
+                // The legs lie by HOURS: behind the first that has not ended yet there are only such.
+                for (int leg = 0; leg < legs && legHours[leg] < t; leg++) {
+                    int place = legHours[leg] == t - 1 ? legEnd[leg] : legNow[leg];
+                    if (asked[place] / PLACES != stamp) {
+                        asked[place] = stamp * PLACES + step(view, sea, place, i);
+                    }
+                    legNow[leg] = asked[place] % PLACES;
+                    if (legNow[leg] == to) {
+                        int rank = t * RANKS + (legStar[leg] * MOST_BY_TWO + legHours[leg]) * STARS + i;
                         best = best == NONE ? rank : Math.min(best, rank);
                     }
                 }
+                turnOnward(view);
             }
-            if (best == NONE) {
-                return false;
+        }
+
+        /** Where two that set out from here and there meet after the fewest HOURS; NONE: nowhere. */
+        int meetingPlace(Sea sea, int here, int there) {
+            spread(sea, here, hoursFromOne);
+            spread(sea, there, hoursFromOther);
+            int best = NONE;
+            for (int place = 0; place < PLACES; place++) {
+                boolean canMeet = hoursFromOne[place] != NONE && hoursFromOther[place] != NONE;
+                if (canMeet && (best == NONE || hoursTo(place) < hoursTo(best))) {
+                    best = place;
+                }
             }
-            secondStar = best % STARS;
-            turn = best / STARS % MOST_BY_TWO;
-            firstStar = best / STARS / MOST_BY_TWO;
-            return true;
+            return best;
+        }
+
+        /** Of the meeting that was asked for last: HOURS till both are at a PLACE (who is there first waits). */
+        int hoursTo(int place) {
+            return Math.max(hoursFromOne[place], hoursFromOther[place]);
+        }
+
+        private void spread(Sea sea, int from, int[] hoursFrom) {
+            Arrays.fill(hoursFrom, NONE);
+            hoursFrom[from] = 0;
+            queue[0] = from;
+            int queued = 1;
+            for (int next = 0; next < queued && next < PLACES; next++) {
+                int place = queue[next];
+                for (int how = 1; how < Sea.WAYS; how++) {
+                    int to = sea.goFrom(place, how);
+                    if (to != NONE && hoursFrom[to] == NONE && queued < PLACES) {
+                        hoursFrom[to] = hoursFrom[place] + 1;
+                        queue[queued] = to;
+                        queued++;
+                    }
+                }
+            }
         }
     }
 
