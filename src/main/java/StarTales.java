@@ -623,6 +623,11 @@ public final class StarTales {
         return Math.min(apart, COLUMNS - apart);
     }
 
+    /** The number of the lowest bit; there must be one. */
+    private static int lowestOf(int bits) {
+        return Integer.bitCount((bits & -bits) - 1);
+    }
+
     private static int faultAt(int number, int place) {
         return -1000 * number - place;
     }
@@ -1090,7 +1095,7 @@ public final class StarTales {
             law = into;
             law.clear();
             readClause();
-            while (fault == 0 && at < length) {
+            for (int more = 0; more < Law.MOST_CLAUSES && fault == 0 && at < length; more++) {
                 skip(';');
                 readClause();
             }
@@ -1468,7 +1473,7 @@ public final class StarTales {
             int reached = 1 << from;
             int todo = reached;
             for (int rounds = 0; rounds < STARS && todo != 0; rounds++) {
-                int i = Integer.numberOfTrailingZeros(todo);
+                int i = lowestOf(todo);
                 int next = joined[i];
                 if (i == cutA) {
                     next &= ~(1 << cutB);
@@ -1640,7 +1645,7 @@ public final class StarTales {
 
         private int tightest(int settled, int left) {
             int best = 0;
-            int least = Integer.MAX_VALUE;
+            int least = Tale.NAMES * (STARS + 1);
             for (int name = 0; name < Tale.NAMES; name++) {
                 if ((left >> name & 1) != 0) {
                     // Of like ones the one with most LINES: it tells most about the others.
@@ -1782,7 +1787,7 @@ public final class StarTales {
             Sky sky = view.sky;
             if (from == to) {
                 hoursTaken = 0;
-                firstStar = Integer.numberOfTrailingZeros(sky.told);
+                firstStar = lowestOf(sky.told);
                 return true;
             }
             Arrays.fill(brought, from);

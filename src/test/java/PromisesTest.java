@@ -488,6 +488,8 @@ public final class PromisesTest {
         due(22, "just it", t.known(1, 2), 2);
         put(t, 12, 12, 3, 12, 12, 9);
         due(22, "just them, the first", t.known(2, 3), 24 * 6 + 15);
+        put(t, 12, 12, 9, 12, 12, 3, 14, 12, 3, 1, 1, 1, 2, 2, 2, 3, 3, 3);
+        due(22, "18 of 20 bytes", t.known(6, 0), 0);
         put(t, 12, 12, 9, 12, 12, 9);
         due(22, "one of two", t.known(2, 3), -2);
     }
@@ -663,9 +665,12 @@ public final class PromisesTest {
         due(27, "two are not", t.found(), 1 | 1 << 9);
         put(t, 12, 11, 26, 0, 7, 7);
         due(27, "26 is not 2", t.found(), 1 << 5);
-        for (int i = 0; i < 11; i++) {
+        for (int i = 0; i < 10; i++) {
             t.star(i, 0, 0, 1);
         }
+        put(t, 0);
+        due(27, "just so many", t.found(), 0);
+        t.star(10, 0, 0, 1);
         put(t, 0);
         due(27, "not so many", t.found(), -1);
         due(27, "the tape stays", t.count(7), 20);
@@ -746,6 +751,20 @@ public final class PromisesTest {
         due(30, "no place", t.byTwo(0, 9, 12, 12, 0), -1);
         due(30, "no ship", t.byTwo(6, 9, 7, 12, 0), -1);
         due(30, "nothing is changed", t.count(0), 0);
+        t = new StarTales();
+        t.ship(0, 8, 5);
+        t.sight(8, 8);
+        t.star(0, 8, 8, 1);
+        t.star(1, 12, 5, 1);
+        t.star(2, 12, 5, 1);
+        due(30, "either first", t.byTwo(0, 9, 6, 12, 0), 2);
+        due(30, "the lowest first star", t.byTwo(0, 9, 6, 12, 1), 0);
+        due(30, "the lowest second star", t.byTwo(0, 9, 6, 12, 3), 1);
+        due(30, "the lowest K of the lowest first star", t.byTwo(0, 10, 6, 12, 2), 1);
+        due(30, "it comes back to where it is", t.byTwo(0, 8, 5, 12, 0), -2);
+        t.land(9, 5, true);
+        t.land(8, 6, true);
+        due(30, "it stays where it is", t.byTwo(0, 8, 5, 12, 0), 2);
     }
 
     private static void sameTale() {
@@ -812,6 +831,8 @@ public final class PromisesTest {
         due(33, "the tape stays", t.count(7), 20);
         due(33, "the last way is not looked at", t.log(1, 0), 35);
         due(33, "empty then", t.count(7), 0);
+        put(t, 0);
+        due(33, "just so many bytes", t.log(10, 1), 0);
         put(t, 1, 9, 1, 0);
         due(33, "no such way", t.log(2, 0), -2);
         put(t, 2, 0);
