@@ -978,6 +978,32 @@ public final class PromisesTest {
         due(40, "far out", t.count(Integer.MAX_VALUE), -1);
     }
 
+    /** With a full tape only the bounds of n itself can refuse. */
+    private static void fullTape() {
+        StarTales t = fiveStars();
+        tale(t, "AB");
+        for (int k = 0; k < 11; k++) {
+            t.feed(0, 0, 0, 0, 0);
+        }
+        due(11, "201", t.law(201), -1);
+        due(12, "61", t.tale(61), -1);
+        due(22, "13", t.known(13, 0), -1);
+        due(23, "9", t.named(9, 0), -1);
+        due(33, "13", t.log(13, 0), -1);
+        due(39, "7", t.check(7), -2);
+        due(22, "0", t.known(0, 0), -1);
+        due(23, "1", t.named(1, 0), -1);
+        due(33, "0", t.log(0, 0), -1);
+        due(11, "0", t.law(0), -1);
+        due(12, "0", t.tale(0), -1);
+        due(39, "-1", t.check(-1), -2);
+        due(10, "the tape stays", t.count(7), 220);
+        due(33, "12", t.log(12, 1), 0);
+        due(33, "all 220 bytes are gone", t.count(7), 0);
+        due(31, "the first and the last place", t.both(0, 287, 1), 0);
+        due(31, "the last and the first place", t.both(287, 0, 1), 0);
+    }
+
     public static void main(String[] args) {
         newObject();
         stars();
@@ -1004,6 +1030,7 @@ public final class PromisesTest {
         overAndHome();
         keeping();
         checking();
+        fullTape();
         System.out.println(wrong == 0 ? "all " + asked + " answers are as due" : wrong + " answers are not as due");
         if (wrong != 0) {
             System.exit(1);
