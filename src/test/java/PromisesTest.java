@@ -1,68 +1,5 @@
 /** Each promise by its number: ordinary inputs, the edges that the document names, wrong inputs. */
-public final class PromisesTest {
-    private static int wrong = 0;
-    private static int asked = 0;
-
-    private static void due(int promise, String what, int got, int want) {
-        asked++;
-        if (got != want) {
-            wrong++;
-            System.out.println("promise " + promise + ": " + what + " answered " + got + ", due is " + want);
-        }
-    }
-
-    private static void due(int promise, String what, boolean got, boolean want) {
-        due(promise, what, got ? 1 : 0, want ? 1 : 0);
-    }
-
-    private static void put(StarTales t, int... bytes) {
-        for (int from = 0; from < bytes.length; from += 20) {
-            int[] v = new int[5];
-            for (int k = 0; k < 20; k++) {
-                v[k / 4] = v[k / 4] << 8 | (from + k < bytes.length ? bytes[from + k] : 0);
-            }
-            t.feed(v[0], v[1], v[2], v[3], v[4]);
-        }
-    }
-
-    private static void put(StarTales t, String text) {
-        int[] bytes = new int[text.length()];
-        for (int k = 0; k < bytes.length; k++) {
-            bytes[k] = text.charAt(k);
-        }
-        put(t, bytes);
-    }
-
-    private static int law(StarTales t, String text) {
-        put(t, text);
-        return t.law(text.length());
-    }
-
-    private static int tale(StarTales t, String text) {
-        put(t, text);
-        return t.tale(text.length());
-    }
-
-    private static String many(String part, String between, int times) {
-        StringBuilder s = new StringBuilder(part);
-        for (int k = 1; k < times; k++) {
-            s.append(between).append(part);
-        }
-        return s.toString();
-    }
-
-    /** Stars 0, 1, 2 make a triangle round (11, 5), 3 hangs on 2, 4 stands alone; lines are up to 3 long. */
-    private static StarTales fiveStars() {
-        StarTales t = new StarTales();
-        t.star(0, 10, 5, 1);
-        t.star(1, 12, 5, 2);
-        t.star(2, 11, 7, 3);
-        t.star(3, 13, 8, 4);
-        t.star(4, 15, 4, 5);
-        law(t, "j(d<4)");
-        return t;
-    }
-
+public final class PromisesTest extends Asking {
     private static void newObject() {
         StarTales t = new StarTales();
         int[] want = {0, 0, 0, 0, 0, 0, 0, 0, 1, 403, 0};
@@ -1031,9 +968,6 @@ public final class PromisesTest {
         keeping();
         checking();
         fullTape();
-        System.out.println(wrong == 0 ? "all " + asked + " answers are as due" : wrong + " answers are not as due");
-        if (wrong != 0) {
-            System.exit(1);
-        }
+        tellAndEnd();
     }
 }
