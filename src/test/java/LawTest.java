@@ -40,6 +40,13 @@ public final class LawTest extends Asking {
                 boolean isWhole = text.charAt(n) == ';';
                 reads(start, isWhole ? clausesOf(start) : fault(1, n));
             }
+            // What is behind the first n bytes is not looked at, though it is on the tape.
+            for (int n = 1; n < text.length(); n++) {
+                StarTales t = new StarTales();
+                put(t, text);
+                boolean isWhole = text.charAt(n) == ';';
+                due("the first " + n + " of " + text, t.law(n), isWhole ? clausesOf(text.substring(0, n)) : fault(1, n));
+            }
             for (int at = 0; at < text.length(); at++) {
                 for (char sign : new char[] {' ', 0, 'A', 'z', 'a', 128, 200, 255, '.', '{'}) {
                     reads(text.substring(0, at) + sign + text.substring(at + 1), fault(1, at));
@@ -368,6 +375,11 @@ public final class LawTest extends Asking {
         due("j", law(t, "j(i=0&m=1&r=0&c=23&k=23&n=9&s=11&e=22&d=12&x=3&y=5&h=23&u=10)"), 1);
         due("j", t.line(3, 5, 0, 23), 1);
         due("j, the higher one first", t.line(3, 5, 23, 0), 1);
+        due("behind line() there is no other one", law(t, "v(k+n+s+e=0);j(k>0)"), 1 + 1);
+        due("behind line() there is no other one", t.line(3, 5, 0, 23), 1);
+        due("behind line() there is no other one", t.seen(3, 5), 1 | 1 << 23);
+        tale(t, "AB");
+        due("nor behind the first place of where()", t.where(0), 264);
         due("j, no star is both", law(t, "j(i=23)"), 1);
         due("j, the lower one is i", t.line(3, 5, 0, 23), 0);
         // What the calls ahead of it told of another STAR or PLACE is told no more.
@@ -424,6 +436,11 @@ public final class LawTest extends Asking {
             boolean isName = sign >= 'A' && sign <= 'H';
             tells((char) sign + "A", sign == 'A' ? fault(3, 1) : isName ? 1 : fault(1, 0));
             tells("H" + (char) sign, sign == 'H' ? fault(3, 1) : isName ? 1 : fault(1, 1));
+        }
+        for (int n = 1; n < TWELVE.length(); n++) {
+            StarTales t = new StarTales();
+            put(t, TWELVE);
+            due("the first " + n + " of twelve", t.tale(n), n % 3 == 2 ? (n + 1) / 3 : fault(1, n));
         }
         tells("ABC", fault(1, 2));
         tells("AB;;CD", fault(1, 3));

@@ -417,6 +417,21 @@ public final class SeaTest extends Asking {
         due("nothing is changed", t.count(25), place(10, 5));
         t.land(11, 5, true);
         due("land", t.fastest(5, 11, 5, 48, 0), -2);
+        // By the first star; and what was asked before is forgotten.
+        t = new StarTales();
+        t.ship(0, 10, 5);
+        t.star(0, 13, 5, 1);
+        due("by star 0", t.fastest(0, 12, 5, 9, 0), 2);
+        due("by star 0", t.fastest(0, 12, 5, 9, 1), 0);
+        due("it is there", t.fastest(0, 10, 5, 9, 0), 0);
+        t.star(1, 10, 8, 1);
+        law(t, "v(i=0&h=0|i=1&h=1)");
+        due("one hour by star 0", t.fastest(0, 11, 5, 48, 0), 1);
+        due("by star 1, in its second hour", t.fastest(0, 10, 6, 48, 0), 2);
+        due("by star 1, in its second hour", t.fastest(0, 10, 6, 48, 1), 1);
+        due("not by one alone", t.fastest(0, 11, 6, 48, 0), -2);
+        due("but by two", t.byTwo(0, 11, 6, 12, 0), 2);
+        due("but by two", t.byTwo(0, 11, 6, 12, 3), 1);
         // Of like ones the lowest star; of others the one that is faster.
         t = new StarTales();
         t.ship(0, 10, 5);
@@ -488,6 +503,54 @@ public final class SeaTest extends Asking {
         t.hour(23);
         due("over a night", t.byTwo(0, 13, 5, 12, 0), 3);
         due("the hour stays", t.count(0), 23);
+    }
+
+    /** Stars all round a ship, walking and turning: every way BY TWO is gone, and the best of them asked for. */
+    private static StarTales amidst() {
+        StarTales t = new StarTales();
+        t.sight(11, 11);
+        for (int i = 0; i < 24; i++) {
+            t.star(i, (18 + 5 * i) % 24, i * 7 % 12, 1 + i % 9);
+            t.walk(i, i % 7 - 3, i % 5 - 2);
+        }
+        t.land(14, 4, true);
+        t.land(9, 7, true);
+        t.ship(0, 12, 6);
+        t.hour(19);
+        t.clouds(1 << 3 | 1 << 12);
+        law(t, "v(!([i+h]%5=0))");
+        return t;
+    }
+
+    private static void byTwoAmidst() {
+        int[] best = new int[288];
+        java.util.Arrays.fill(best, Integer.MAX_VALUE);
+        for (int first = 0; first < 24; first++) {
+            for (int k = 1; k < 12; k++) {
+                StarTales t = amidst();
+                t.steered(0, first, k, false);
+                t.keep();
+                for (int second = 0; second < 24; second++) {
+                    t.undo();
+                    for (int hours = k + 1; hours <= 12; hours++) {
+                        int at = t.steered(0, second, 1, false);
+                        best[at] = Math.min(best[at], ((hours * 24 + first) * 12 + k) * 24 + second);
+                    }
+                }
+            }
+        }
+        for (int p = 0; p < 288; p++) {
+            StarTales t = amidst();
+            int[] want = {best[p] / 24 / 12 / 24, best[p] / 24 / 12 % 24, best[p] / 24 % 12, best[p] % 24};
+            for (int what = 0; what < 4; what++) {
+                boolean isNever = best[p] == Integer.MAX_VALUE;
+                due("by two to " + p + ", what " + what, t.byTwo(0, p % 24, p / 24, 12, what), isNever ? -2 : want[what]);
+            }
+            if (best[p] != Integer.MAX_VALUE && want[0] > 2) {
+                due("by two to " + p + " within fewer", t.byTwo(0, p % 24, p / 24, want[0] - 1, 0), -2);
+                due("by two to " + p + " within just so many", t.byTwo(0, p % 24, p / 24, want[0], 3), want[3]);
+            }
+        }
     }
 
     private static int log(StarTales t, int n, int what, int... bytes) {
@@ -627,9 +690,14 @@ public final class SeaTest extends Asking {
         due("undone", t.undo(), true);
         t.hours(1);
         due("undone again", t.undo(), true);
-        t.star(3, 0, 0, 1);
+        t.star(3, 0, 0, 9);
+        t.walk(3, 3, 3);
         t.gone(23);
         due("and again", t.undo(), true);
+        int[] third = {3, 1, 4, 2, 3, 0};
+        for (int what = 0; what < 6; what++) {
+            due("a star told anew", t.starIs(3, what), third[what]);
+        }
         int[] last = {23, 11, 6, 22, 23 % 7, 23 / 7};
         for (int what = 0; what < 6; what++) {
             due("the last star", t.starIs(23, what), last[what]);
@@ -694,8 +762,10 @@ public final class SeaTest extends Asking {
             other[s]++;
             due("the first that is not so", check(t, 6, other), s);
             due("those ahead of it", check(t, s, other), NONE);
-            other[s] = places[s] | 0x80000000;
-            due("the highest bit", check(t, 6, other), s);
+            for (int bit : new int[] {8, 9, 15, 16, 17, 23, 24, 31}) {
+                other[s] = places[s] ^ 1 << bit;
+                due("another bit " + bit, check(t, 6, other), s);
+            }
             other[s] = -1;
             due("-1", check(t, 6, other), s);
             other[5] = 0;
@@ -784,6 +854,7 @@ public final class SeaTest extends Asking {
         meetings();
         fastest();
         byTwo();
+        byTwoAmidst();
         logs();
         logsOfTales();
         keeping();

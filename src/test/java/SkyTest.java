@@ -220,6 +220,8 @@ public final class SkyTest extends Asking {
     private static void matched() {
         StarTales all = heap(24, "j(1=1)");
         matches(all, "AB", 24 * 23);
+        matches(all, "GH", 24 * 23);
+        due("the first of 24", all.matched(10, 5, 6) * 100 + all.matched(10, 5, 7), 1);
         matches(all, "AB;BC", 10000);
         matches(all, "AB;CD;EF;GH", 10000);
         matches(heap(22, "j(1=1)"), "AB;BC", 22 * 21 * 20);
@@ -323,6 +325,56 @@ public final class SkyTest extends Asking {
         due("the hour stays", t.count(0), 23);
     }
 
+    /** A LAW that asks for the PLACE, or for the time, is asked anew at each of them. */
+    private static void laws() {
+        String[] conditions = {"x=10", "y=6", "x=10&y=6", "x=9|x=10", "y=5|y=6", "x+y=16"};
+        // From x 6 to 14 and y 2 to 8 both are SEEN.
+        int[] places = {7, 9, 1, 14, 18, 7};
+        for (int k = 0; k < conditions.length; k++) {
+            StarTales t = heap(2, "j(" + conditions[k] + ")");
+            tale(t, "AB");
+            due("where j holds by " + conditions[k], t.where(0), places[k]);
+            put(t, 1, 0);
+            due("log where j holds by " + conditions[k], t.log(1, 0), places[k]);
+            law(t, "v(" + conditions[k] + ");j(1=1)");
+            due("where v holds by " + conditions[k], t.where(0), places[k]);
+            put(t, 1, 0);
+            due("log where v holds by " + conditions[k], t.log(1, 0), places[k]);
+            int many = 0;
+            for (int dx = 8; dx <= 16; dx++) {
+                for (int dy = 9; dy <= 15; dy++) {
+                    many += known(t, 1, 0, dx, dy, 1);
+                }
+            }
+            due("known where v holds by " + conditions[k], many, places[k]);
+        }
+        StarTales t = heap(2, "v(d=3);j(1=1)");
+        tale(t, "AB");
+        due("where v holds by the way", t.where(0), 12);
+        due("alike where v holds by the way", t.alike(0), 0);
+        law(t, "v(h=3);j(1=1)");
+        due("by the hour", t.when(10, 5), 1 << 3);
+        t.hour(3);
+        due("by the hour that is now", t.where(0), 63);
+        put(t, 12, 12, 1);
+        due("by the hour that is now", t.known(1, 1), 24 * 5 + 13);
+        t.star(2, 20, 5, 1);
+        t.sight(0, 0);
+        due("by the hour that is now", t.alike(1), 24 * 5 + 13);
+        due("behind another hour", t.when(20, 5), 0);
+        due("the hour that is now", t.alike(2), 24 * 5 + 23);
+        put(t, 12, 12, 1);
+        due("behind another hour", t.when(20, 5), 0);
+        due("the hour that is now", t.known(1, 0), 2);
+        put(t, 20, 5, 23, 5);
+        due("behind another hour", t.when(20, 5), 0);
+        due("the hour that is now", t.named(2, 1), 4);
+        t.hour(4);
+        due("another hour", t.alike(0), 0);
+        put(t, 12, 12, 1);
+        due("another hour", t.known(1, 0), 0);
+    }
+
     private static void alike() {
         StarTales t = belt(0, "v(1=1)");
         t.sight(0, 0);
@@ -354,6 +406,20 @@ public final class SkyTest extends Asking {
         due("the second pair", t.alike(2), 287);
         t.clouds(1 << 23);
         due("one is clouded", t.alike(0), 0);
+        // One PLACE has all of another's PATCH, and a part more.
+        for (int part = 0; part < 81; part++) {
+            t = new StarTales();
+            t.sight(1, 1);
+            law(t, "v((x=5|x=15)&y=2)");
+            t.star(0, 5, 2, 1);
+            t.star(1, 15, 2, 1);
+            due("two alike", t.alike(0), 2);
+            boolean isSame = part == 9 * 4;
+            t.star(2, 14 + part / 9 % 3, 1 + part / 27, 1 + part % 9);
+            due("a part more", t.alike(0), isSame ? 2 : 0);
+            t.star(3, 4 + part / 9 % 3, 1 + part / 27, 1 + part % 9);
+            due("two alike again", t.alike(2), 24 * 2 + 15);
+        }
         // Round the edge: two stars three columns apart, and the same two over the edge.
         t = new StarTales();
         t.sight(2, 0);
@@ -393,6 +459,9 @@ public final class SkyTest extends Asking {
         due("no such brightness", known(t, 1, 0, 12, 12, 0), 0);
         due("no such brightness", known(t, 1, 0, 12, 12, 10), 0);
         due("far out", known(t, 1, 0, 255, 255, 255), 0);
+        due("128 rows beyond are no column", known(t, 1, 0, 12, 128 + 12, 9), 0);
+        due("128 rows beyond are no column", known(t, 1, 0, 13, 128 + 12, 9), 0);
+        due("128 brighter is no row", known(t, 1, 0, 12, 12, 128 + 9), 0);
         due("far out", known(t, 1, 1, 0, 0, 0), -2);
         t.star(0, 0, 0, 1);
         due("round the edge to the right", known(t, 1, 1, 13, 12, 1), 23);
@@ -416,6 +485,7 @@ public final class SkyTest extends Asking {
         due("just twelve", known(t, 12, 2, twelve), 1);
         due("just twelve, the first", known(t, 12, 3, twelve), 24 * 5 + 6);
         due("eleven of twelve", known(t, 11, 0, twelve), 1);
+        due("eleven of twelve, the first", known(t, 11, 1, twelve), 24 * 5 + 6);
         due("just eleven", known(t, 11, 2, twelve), 0);
         due("just eleven", known(t, 11, 3, twelve), -2);
         due("one of twelve, at four places", known(t, 1, 0, twelve), 4);
@@ -569,6 +639,21 @@ public final class SkyTest extends Asking {
                 hides(row, 3, 7 << 9);
             }
         }
+        // The fewest columns ahead of the least bits: so many that all lines go to, behind one more that they come from.
+        for (int few = 1; few <= 4; few++) {
+            StarTales two = new StarTales();
+            for (int i = 0; i < few; i++) {
+                two.star(i, 14 - i, 5, 2);
+            }
+            for (int i = few; i <= 2 * few; i++) {
+                two.star(i, 14 - i, 5, 1);
+            }
+            two.sight(11, 0);
+            law(two, "j(m>n)");
+            tale(two, "AB");
+            due("fewest", two.hidden(10, 5, 0), few);
+            due("fewest", two.hidden(10, 5, 1), (1 << few) - 1 << 15 - few);
+        }
         // Over the edge: the least bits are those of the lowest columns, not of the nearest.
         t = new StarTales();
         t.star(0, 23, 5, 1);
@@ -667,6 +752,7 @@ public final class SkyTest extends Asking {
         figures();
         matched();
         whereAndWhen();
+        laws();
         alike();
         known();
         named();
