@@ -407,17 +407,20 @@ public final class SkyTest extends Asking {
         t.clouds(1 << 23);
         due("one is clouded", t.alike(0), 0);
         // One PLACE has all of another's PATCH, and a part more.
-        for (int part = 0; part < 81; part++) {
+        for (int part = 0; part < 729; part++) {
+            int bright = 1 + part / 81;
             t = new StarTales();
             t.sight(1, 1);
             law(t, "v((x=5|x=15)&y=2)");
-            t.star(0, 5, 2, 1);
-            t.star(1, 15, 2, 1);
+            t.star(0, 5, 2, bright);
+            t.star(1, 15, 2, bright);
             due("two alike", t.alike(0), 2);
-            boolean isSame = part == 9 * 4;
-            t.star(2, 14 + part / 9 % 3, 1 + part / 27, 1 + part % 9);
+            int columns = part / 9 % 3;
+            int rows = part / 27 % 3;
+            boolean isSame = columns == 1 && rows == 1 && part % 9 + 1 == bright;
+            t.star(2, 14 + columns, 1 + rows, 1 + part % 9);
             due("a part more", t.alike(0), isSame ? 2 : 0);
-            t.star(3, 4 + part / 9 % 3, 1 + part / 27, 1 + part % 9);
+            t.star(3, 4 + columns, 1 + rows, 1 + part % 9);
             due("two alike again", t.alike(2), 24 * 2 + 15);
         }
         // Round the edge: two stars three columns apart, and the same two over the edge.
@@ -574,6 +577,51 @@ public final class SkyTest extends Asking {
         due("of like ones the least bits", named(t, 8, 1, eight), 7 << 5);
         t.gone(5);
         due("it can't be", named(t, 8, 1, eight), -2);
+    }
+
+    private static void sells(StarTales t, int most, int worth, int bits, int heavy) {
+        due("worth within " + most, t.sold(most, 0), worth);
+        due("which within " + most, t.sold(most, 1), bits);
+        due("how heavy within " + most, t.sold(most, 2), heavy);
+    }
+
+    private static void sold() {
+        StarTales t = heap(24, "w999(1=1);g99(1=1)");
+        sells(t, 0, 0, 0, 0);
+        sells(t, 98, 0, 0, 0);
+        sells(t, 99, 999, 1, 99);
+        sells(t, 197, 999, 1, 99);
+        sells(t, 198, 1998, 3, 198);
+        sells(t, 989, 9 * 999, 0x1FF, 891);
+        sells(t, 990, 9990, 0x3FF, 990);
+        sells(t, 999, 9990, 0x3FF, 990);
+        due("beyond", t.sold(1000, 0), -1);
+        law(t, "w999(1=1)");
+        sells(t, 0, 24 * 999, ALL, 0);
+        law(t, "g99(1=1)");
+        sells(t, 999, 0, 0, 0);
+        law(t, "w1(1=1);g41(1=1)");
+        sells(t, 999, 24, ALL, 24 * 41);
+        sells(t, 24 * 41, 24, ALL, 24 * 41);
+        sells(t, 24 * 41 - 1, 23, ALL >> 1, 23 * 41);
+        law(t, "wi(1=1);g50(1=1)");
+        sells(t, 50, 23, 1 << 23, 50);
+        sells(t, 49, 0, 0, 0);
+        sells(t, 999, 5 + 6 + 7 + 8 + 9 + 10 + 11 + 12 + 13 + 14 + 15 + 16 + 17 + 18 + 19 + 20 + 21 + 22 + 23, ALL & ~31, 950);
+        // One that is worth as much as two others, and just as heavy: the least bits are those without the higher one.
+        law(t, "w2(i=5);w1(i<2);g2(i=5);g1(1=1)");
+        sells(t, 2, 2, 3, 2);
+        sells(t, 1, 1, 1, 1);
+        sells(t, 3, 3, 0x21, 3);
+        sells(t, 4, 4, 0x23, 4);
+        // What is clouded, or not SEEN from anywhere, is sold as well; what is gone is not.
+        t.clouds(ALL);
+        law(t, "v(1=2);w1(1=1);g1(1=1)");
+        sells(t, 999, 24, ALL, 24);
+        t.gone(0);
+        t.gone(23);
+        sells(t, 999, 22, ALL >> 1 & ~1, 22);
+        sells(t, 1, 1, 2, 1);
     }
 
     private static void both() {
@@ -756,6 +804,7 @@ public final class SkyTest extends Asking {
         alike();
         known();
         named();
+        sold();
         both();
         hidden();
         over();
