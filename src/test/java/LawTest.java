@@ -125,6 +125,49 @@ public final class LawTest extends Asking {
         }
     }
 
+    /** Of 14 CLAUSES the last one counts as the first; those of a LAW before do no more. */
+    private static void lastClause() {
+        StarTales t = new StarTales();
+        for (int i = 0; i < 3; i++) {
+            t.star(i, 0, 0, 1);
+        }
+        t.ship(0, 0, 0);
+        law(t, many("v(1=2)", ";", 13) + ";v(i=2)");
+        due("the 14th v", t.seen(0, 0), 4);
+        law(t, many("v(1=2)", ";", 14));
+        due("none of 14 v", t.seen(0, 0), 0);
+        law(t, many("j(1=2)", ";", 13) + ";j(k=2)");
+        due("the 14th j", t.sky(0, 0, 0), 2);
+        law(t, many("j(1=2)", ";", 14));
+        due("none of 14 j", t.sky(0, 0, 0), 0);
+        law(t, many("w1(1=2)", ";", 13) + ";w7(1=1)");
+        due("the 14th w", t.sold(9, 0), 21);
+        law(t, many("w1(1=2)", ";", 14));
+        due("none of 14 w", t.sold(9, 0), 0);
+        law(t, "w1(1=1);" + many("g1(1=2)", ";", 12) + ";g3(1=1)");
+        due("the last g", t.sold(9, 2), 9);
+        law(t, many("q5(1=2)", ";", 13) + ";q10(1=1)");
+        t.steered(0, 0, 1, true);
+        due("the 14th q", t.count(2), 0xFFFFFF);
+        for (int before = 2; before <= 14; before++) {
+            for (String kind : new String[] {"v", "j", "w9", "q9"}) {
+                t = new StarTales();
+                t.star(0, 0, 0, 1);
+                t.star(1, 0, 0, 1);
+                t.ship(0, 0, 0);
+                // Twice, so that it comes where the first one was.
+                law(t, many(kind + "(1=1)", ";", before));
+                law(t, many(kind + "(1=1)", ";", before));
+                law(t, many(kind + "(1=2)", ";", before - 1));
+                due("less of v", t.seen(0, 0), kind.equals("v") ? 0 : 3);
+                due("less of j", t.sky(0, 0, 0), 0);
+                due("less of w", t.sold(9, 0), 0);
+                t.steered(0, 0, 1, true);
+                due("less of q", t.count(2), 0);
+            }
+        }
+    }
+
     private static void open() {
         // Six open are taken, whatever they are.
         String[] six = {"v((((((1=1))))))", "v(!!!!!1=1)", "v([[[[[1]]]]]=1)", "v(1=[[[[[1]]]]])", "v(!(!([1]=1)))",
@@ -493,6 +536,7 @@ public final class LawTest extends Asking {
         whatCantStand();
         digits();
         clauses();
+        lastClause();
         open();
         lengths();
         amounts();

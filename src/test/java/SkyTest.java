@@ -472,6 +472,12 @@ public final class SkyTest extends Asking {
         due("11 rows down", known(t, 1, 1, 12, 1, 1), 24 * 11);
         t.star(0, 0, 11, 1);
         due("11 rows up", known(t, 1, 1, 12, 23, 1), 0);
+        due("there is no place above the last row", known(t, 1, 0, 12, 11, 1), 0);
+        due("there is no place above the last row", known(t, 1, 1, 12, 9, 1), -2);
+        t.star(0, 0, 0, 1);
+        due("there is no place below the first row", known(t, 1, 0, 12, 13, 1), 0);
+        due("there is no place below the first row", known(t, 1, 3, 12, 14, 1), -2);
+        t.star(0, 0, 11, 1);
         t.hour(1);
         due("it turns", known(t, 1, 1, 12, 12, 1), 24 * 11 + 1);
 
@@ -577,6 +583,51 @@ public final class SkyTest extends Asking {
         due("of like ones the least bits", named(t, 8, 1, eight), 7 << 5);
         t.gone(5);
         due("it can't be", named(t, 8, 1, eight), -2);
+    }
+
+    /** Many skies: what is NAMED, held against every set of their stars. */
+    private static void namedOfAll() {
+        int[] places = new int[16];
+        for (int k = 0; k < 8; k++) {
+            places[2 * k] = k;
+        }
+        for (int sky = 0; sky < 300; sky++) {
+            StarTales t = new StarTales();
+            t.sight(11, 0);
+            for (int i = 0; i < 11; i++) {
+                t.star(2 * i + 1, 4, 0, 1);
+            }
+            int m = 3 + sky % 7;
+            law(t, "v([i*" + (1 + sky % 5) + "+x*" + (1 + sky / 5 % 6) + "+i*x*" + (1 + sky % 11) + "+" + sky + "]%" + m
+                    + "<" + (1 + sky / 3 % (m - 1)) + ")");
+            int n = 2 + sky % 7;
+            int[] seen = new int[n];
+            for (int k = 0; k < n; k++) {
+                seen[k] = t.seen(k, 0);
+            }
+            int best = -2;
+            for (int set = 1; set < 1 << 11; set++) {
+                int bits = 0;
+                for (int i = 0; i < 11; i++) {
+                    bits |= (set >> i & 1) << 2 * i + 1;
+                }
+                boolean isFewer = best == -2 || Integer.bitCount(bits) < Integer.bitCount(best);
+                best = isFewer && tellsApart(seen, bits) ? bits : best;
+            }
+            due("sky " + sky + ": named", named(t, n, 1, places), best);
+            due("sky " + sky + ": how many", named(t, n, 0, places), best == -2 ? -2 : Integer.bitCount(best));
+        }
+    }
+
+    private static boolean tellsApart(int[] seen, int bits) {
+        for (int a = 0; a < seen.length; a++) {
+            for (int b = 0; b < a; b++) {
+                if ((seen[a] & bits) == (seen[b] & bits)) {
+                    return false;
+                }
+            }
+        }
+        return true;
     }
 
     private static void sells(StarTales t, int most, int worth, int bits, int heavy) {
@@ -804,6 +855,7 @@ public final class SkyTest extends Asking {
         alike();
         known();
         named();
+        namedOfAll();
         sold();
         both();
         hidden();
