@@ -1542,6 +1542,8 @@ public final class StarTales {
     /** Matches a TALE with what is SEEN. */
     private static final class Matcher {
         private static final int MOST_HIDING = 4;
+        /** So many dead ends are passed before it pays to look further ahead. */
+        private static final int FEW_DEAD_ENDS = 40;
 
         /** The STARS (bits) that each name may still be, a row of names for each name that is settled. */
         private final int[] may = new int[(Tale.NAMES + 1) * Tale.NAMES];
@@ -1552,6 +1554,7 @@ public final class StarTales {
         private Tale tale;
         private int[] joined;
         private int fewest = NONE;
+        private int deadEnds = 0;
 
         Matcher(Tale tale, int[] joined) {
             this.tale = tale;
@@ -1591,6 +1594,7 @@ public final class StarTales {
         private void begin(Tale told, int shown, int[] lines) {
             tale = told;
             joined = lines;
+            deadEnds = 0;
             for (int name = 0; name < Tale.NAMES; name++) {
                 may[name] = withLegs(shown, Integer.bitCount(tale.near[name]));
             }
@@ -1635,8 +1639,10 @@ public final class StarTales {
                     int like = Integer.bitCount(options & twins[i]);
                     options &= ~twins[i];
                     starOf[name] = i;
-                    if (narrow(settled, others, name, i)) {
+                    if (narrow(settled, others, name, i) && (deadEnds < FEW_DEAD_ENDS || agree(settled + 1, others))) {
                         ways += like * search(settled + 1, others, most - ways);
+                    } else {
+                        deadEnds++;
                     }
                 }
             }
@@ -1677,6 +1683,44 @@ public final class StarTales {
                 }
             }
             return true;
+        }
+
+        /**
+         * Leaves each name that is left only STARS which have a LINE with one that the next name may be, till
+         * nothing changes any more; false: one of them may be none.
+         */
+        private boolean agree(int settled, int left) {
+            int from = settled * Tale.NAMES;
+            boolean isChanged = true;
+            for (int rounds = 0; rounds < Tale.NAMES * STARS && isChanged; rounds++) {
+                isChanged = false;
+                for (int name = 0; name < Tale.NAMES; name++) {
+                    int nearOnes = (left >> name & 1) == 0 ? 0 : tale.near[name] & left;
+                    int bits = may[from + name];
+                    for (int other = 0; other < Tale.NAMES; other++) {
+                        if ((nearOnes >> other & 1) != 0) {
+                            bits &= besides(may[from + other]);
+                        }
+                    }
+                    if (nearOnes != 0 && bits == 0) {
+                        return false;
+                    }
+                    isChanged = isChanged || bits != may[from + name];
+                    may[from + name] = bits;
+                }
+            }
+            return true;
+        }
+
+        /** The STARS (bits) that have a LINE with one of some. */
+        private int besides(int some) {
+            int bits = 0;
+            for (int i = 0; i < STARS; i++) {
+                if ((some >> i & 1) != 0) {
+                    bits |= joined[i];
+                }
+            }
+            return bits;
         }
 
         /** The fewest columns (bits) that hide a TALE; NONE: more than four. */
@@ -1751,9 +1795,8 @@ public final class StarTales {
         private final int[] legNow = new int[MOST_LEGS];
         private int legs = 0;
         private int best = NONE;
-        /** Steps by one STAR in one HOUR that were asked for already: a stamp, and the PLACE then. */
-        private final int[] asked = new int[PLACES];
-        private int stamp = 0;
+        /** The PLACE where a SHIP is after the HOUR that is looked at, by each PLACE; NONE: not asked for yet. */
+        private final int[] stepped = new int[PLACES];
         private final int[] hoursFromOne = new int[PLACES];
         private final int[] hoursFromOther = new int[PLACES];
         private final int[] queue = new int[PLACES];
@@ -1868,14 +1911,14 @@ public final class StarTales {
 
         private void followSecond(View view, Sea sea, int i, int to, int most) {
             for (int t = 1; t <= most && (best == NONE || t <= best / RANKS); t++) {
-                stamp++;
+                Arrays.fill(stepped, NONE);
                 // The legs lie by HOURS: behind the first that has not ended yet there are only such.
                 for (int leg = 0; leg < legs && legHours[leg] < t; leg++) {
                     int place = legHours[leg] == t - 1 ? legEnd[leg] : legNow[leg];
-                    if (asked[place] / PLACES != stamp) {
-                        asked[place] = stamp * PLACES + step(view, sea, place, i);
+                    if (stepped[place] == NONE) {
+                        stepped[place] = step(view, sea, place, i);
                     }
-                    legNow[leg] = asked[place] % PLACES;
+                    legNow[leg] = stepped[place];
                     if (legNow[leg] == to) {
                         int rank = t * RANKS + (legStar[leg] * MOST_BY_TWO + legHours[leg]) * STARS + i;
                         best = best == NONE ? rank : Math.min(best, rank);

@@ -122,9 +122,29 @@ public final class RulesTest {
         return new int[] {met.size(), cells};
     }
 
+    /** No call may ever throw: nothing that is counted from call to call may run over, however many calls come. */
+    private static void manyCalls() {
+        StarTales t = new StarTales();
+        for (int i = 0; i < 24; i++) {
+            t.star(i, i, 0, 1);
+        }
+        t.ship(0, 0, 11);
+        for (int call = 0; call < 60000; call++) {
+            must(t.byTwo(0, 1, 11, 12, 0) == -2, "byTwo answers another thing at call " + call);
+        }
+        for (int call = 0; call < 60000; call++) {
+            t.hours(240);
+            t.keep();
+            t.undo();
+            t.steered(0, call % 24, 48, true);
+        }
+        must(t.count(20) == 264, "the ship that sees nothing has gone");
+    }
+
     public static void main(String[] args) throws IOException, IllegalAccessException {
         face();
         source();
+        manyCalls();
         int[] room = room(new StarTales());
         System.out.println("a new object: " + room[0] + " objects, " + room[1] + " fields and elements");
         must(room[0] <= 150 && room[1] <= 8000, "a new object takes more room than it did");
